@@ -6,6 +6,8 @@ public final class BeliefTest {
         nothingPlayed();
         onePlayed();
         sureOfNobody();
+        twoAhead();
+        alike();
         noneFit();
         began();
         aloud();
@@ -46,6 +48,42 @@ public final class BeliefTest {
         c.refused(x, "who()", x::who, BarBehind.NONE);
         c.due("likely()", x.likely(), 12);
         c.asked(x, "began()", x.began(), 2, 2);
+    }
+
+    private static void twoAhead() {
+        BarBehind x = Check.of("q2 u33 l38 l48");
+        x.slip(0, 1);
+        x.slip(0, 1);
+        c.due("play() of 4 and 3", x.play(), 1);
+        c.asked(x, "who()", x.who(), 0, 4);
+        c.due("likely()", x.likely(), 14);
+        c.asked(x, "fits()", x.fits(), 1, 14);
+        c.chance(x, "odds(0)", x.odds(0), 1, 1);
+        c.found(x, "self(0)", () -> x.self(0), 4);
+        c.chance(x, "self(1)", x.self(1), 1, 1);
+    }
+
+    private static BarBehind either() {
+        BarBehind x = Check.of("q2 u33 l45");
+        x.slip(1, 1);
+        x.play();
+        return x;
+    }
+
+    /** PLAYER 0 or 1 or both are a bar ahead: each call is the first one of its object. */
+    private static void alike() {
+        BarBehind likely = either();
+        c.due("likely(), the first of alike ones", likely.likely(), 13);
+        BarBehind who = either();
+        c.asked(who, "who(), the first of alike ones", who.who(), 0, 3);
+        BarBehind aloud = either();
+        c.asked(aloud, "aloud(), the first of alike ones", aloud.aloud(), 0, 1);
+        BarBehind odds = either();
+        c.chance(odds, "odds(1)", odds.odds(1), 3, 5);
+        BarBehind self = either();
+        c.chance(self, "self(1)", self.self(1), 1, 1);
+        BarBehind fits = either();
+        c.asked(fits, "fits()", fits.fits(), 3, 13);
     }
 
     /** HEARD as 1, 0, 1: the first and the last are so with nobody OUT alone, the second is not. */

@@ -190,6 +190,12 @@ public final class PlayTest {
         c.due("play() goes on", x.play(), 6);
         c.due("restore(0) again", x.restore(0), 2);
         c.due("restore(2)", x.restore(2), 3);
+        x.undo(0);
+        x.slip(0, 1);
+        x.slip(0, -1);
+        x.jump(0, 1);
+        c.due("restore(2) over other DEEDS", x.restore(2), 3);
+        c.asked(x, "here()", x.here(), 2, 2);
         c.due("undo(2) of a kept one", x.undo(2), 1);
         c.due("image(0) once more", x.image(0), 2);
         c.refused(x, "image(3)", () -> x.image(3), BarBehind.BAD);

@@ -47,6 +47,9 @@ public final class StopTest {
         x.play();
         x.play();
         c.asked(x, "letter() when OVER", x.letter(), 2, 1);
+        BarBehind farthest = Check.of("q2 g00" + "b00".repeat(13));
+        for (int i = 0; i < 14; i++) farthest.play();
+        c.asked(farthest, "letter() from the farthest", farthest.letter(), 0, 14);
         BarBehind plain = Check.of("q2 b00");
         c.refused(plain, "letter() without LETTERS", plain::letter, BarBehind.NONE);
         BarBehind none = new BarBehind();

@@ -61,11 +61,20 @@ public final class TellTest {
         // PLACES 1, 2 and 3 tell alike: the least of the sets is told.
         BarBehind many = Check.of("q2 l11 u22 u33 u44");
         c.asked(many, "fewest() of many", many.fewest(), 1, 2);
+        fewestOfThree();
         // Nobody else sounds when PLAYER 2 does, so that one is never HEARD.
         BarBehind lonely = Check.of("q3 b018 b018 b884 b018");
         c.due("fewest() of one never HEARD", lonely.fewest(), BarBehind.NONE);
         BarBehind none = new BarBehind();
         c.refused(none, "fewest()", none::fewest, BarBehind.STATE);
+    }
+
+    private static void fewestOfThree() {
+        // Of 0 and 1 one behind is HEARD on PLACE 1 alone, one ahead on 0; of 2 and 3 either on 3.
+        BarBehind three = Check.of("q4 u1188 u2288 u8888 u8801");
+        c.asked(three, "fewest() of three", three.fewest(), 3, 11);
+        BarBehind four = Check.of("q4 u1188 u2288 u8888 u8811 u8822");
+        c.refused(four, "fewest() of four", four::fewest, BarBehind.NONE);
     }
 
     private static void modern() {
@@ -75,6 +84,8 @@ public final class TellTest {
         c.asked(three, "modern() of three", three.modern(), 21, 0);
         three.slip(1, 1);
         c.asked(three, "modern() though one is OUT", three.modern(), 21, 0);
+        BarBehind late = Check.of("q2 b88 b28 b01");
+        c.asked(late, "modern() where one a bar behind CLASHES, too", late.modern(), 4, 0);
         BarBehind none = new BarBehind();
         c.asked(none, "modern() without PLACES", none.modern(), 0, 0);
     }

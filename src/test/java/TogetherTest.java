@@ -9,6 +9,7 @@ public final class TogetherTest {
         from(new int[] {-2, -2}, new int[] {0, 0, 0, 0, 0, 0}, new int[] {0, 0, 0, 0, 0, 0});
         from(new int[] {1, 0, 0}, new int[] {NEVER, 1, 1, NEVER, 1, NEVER}, new int[] {0, 3, 2, 0, 2, 0});
         from(new int[] {2, 0, 0}, new int[] {NEVER, 1, 1, NEVER, 2, 1}, new int[] {0, 4, 2, 0, 2, 3});
+        from(new int[] {2, 2, 0}, new int[] {NEVER, 1, 1, NEVER, 2, 1}, new int[] {0, 4, 4, 0, 4, 3});
         from(new int[] {2, -2}, new int[] {NEVER, 1, 1, 2, 4, 2}, new int[] {0, 4, 0, 2, 0, 2});
         from(new int[] {2, -2, 0}, new int[] {NEVER, 1, 1, NEVER, 4, 2}, new int[] {0, 4, 0, 0, 0, 2});
         from(new int[] {-1, 1, 1, 2}, new int[] {NEVER, 1, 1, NEVER, 2, NEVER}, new int[] {0, 1, 3, 0, 3, 0});

@@ -93,10 +93,12 @@ public final class ToldTest {
         x.lay(1, 1, -5);
         x.text(3, 1);
         x.put(3, 0, 200);
-        x.slip(0, 1);
+        x.slip(1, -1);
         x.image(2);
+        x.slip(1, 1);
         x.play();
-        c.due("digest()", x.digest(), fold(2, 1, 2, 1, 1, 0, 1, 2, 1, 1, 3, 1, 2, 3, 2, 0, -1, -1, 1,
+        x.slip(0, 1);
+        c.due("digest()", x.digest(), fold(2, 1, 4, 1, 1, 0, 1, 2, 1, 1, 3, 1, 2, 3, 2, 1, -1, -1, 1,
                 -1, 2, 0, -5, -1, -1, -1, -1, 5, 113, 50, 103, 49, 50, -1, -1, 1, -56));
         long before = x.asked();
         x.digest();
