@@ -25,10 +25,12 @@ public final class FormTest {
         "upper()long", "lower()long", "count(int)int", "finding()int", "findings(int)int", "digest()long"
     };
     private static final String[] FORBIDDEN = {
-        "\\bthrow\\b", "\\btry\\b", "\\bcatch\\b", "\\bsynchronized\\b", "\\bassert\\b", "->", "::",
+        "\\bthrow\\b", "\\btry\\b", "\\bcatch\\b", "\\bsynchronized\\b", "\\bassert\\b", "(?<!CASE) ->", "::",
         "Exact\\(", "\\bprotected\\b", "\\bpackage\\b", "\\bSystem\\.(?!arraycopy)", "\\bRandom\\b", "\\bThread\\b",
-        "static \\{", "\"", "@"
+        "\\bstatic \\{"
     };
+    private static final Set<String> IMPORTS = Set.of("import java.util.Arrays;", "import java.util.ArrayList;",
+            "import java.util.List;", "import java.util.Iterator;");
 
     public static void main(String[] args) throws IOException {
         face();
@@ -92,11 +94,11 @@ public final class FormTest {
         int opened = -1;
         for (int i = 0; i < lines.size(); i++) {
             String line = lines.get(i);
-            String code = line.replaceAll("//.*", "").replaceAll("^\\s*/?\\*.*", "");
+            String code = line.replaceAll("//.*", "").replaceAll("^\\s*/?\\*.*", "").replaceAll("(case .*|default) ->", "CASE ->");
             for (String sign : FORBIDDEN) {
                 holds("line " + (i + 1) + " without " + sign, !Pattern.compile(sign).matcher(code).find());
             }
-            if (code.startsWith("import")) holds(code, code.equals("import java.util.Arrays;"));
+            if (code.startsWith("import")) holds(code, IMPORTS.contains(code.strip()));
             holds("line " + (i + 1) + " has signs 1 to 127", line.chars().allMatch(s -> s > 0 && s < 128));
             if (code.matches("( {4}| {8})[A-Za-z].*\\) \\{")) opened = i;
             if (opened >= 0 && code.matches("( {4}| {8})}")) {

@@ -1,41 +1,53 @@
 import com.sun.management.ThreadMXBean;
 import java.lang.management.ManagementFactory;
 
-/** All calls of a run share one room: an object is small, and its calls make nothing. */
+/**
+ * All calls of a run share one room of some 600,000 objects and 7.3 million fields and elements. An object takes at
+ * least 16 bytes and an element at least one, so a run that takes less than seven million bytes keeps to both.
+ */
 public final class RoomTest {
     private static final ThreadMXBean THREADS = (ThreadMXBean) ManagementFactory.getThreadMXBean();
     private static final Check c = new Check("RoomTest");
+    private static final int CALLS = 512, ROOM = 7_000_000;
+    private static final String LARGEST = "q4g0246u0135c4444g1234t1534g7777b0167c0167b8902u5553g2222b3579t3579u7120";
     private static long sum = 0;
 
+    private RoomTest() {
+    }
+
     public static void main(String[] args) {
-        String signs = "q4 b0246 u0135 c4444 g1234 t1534 g7777 b0167 c0167 b8902 u5553 g2222 b3579";
-        BarBehind x = Check.of(signs);
-        callAll(x);
-        long before = taken();
-        for (int i = 0; i < 20; i++) callAll(x);
-        long calls = taken() - before;
-        before = taken();
-        for (int i = 0; i < 10; i++) sum += new BarBehind().asked();
-        long objects = (taken() - before) / 10;
-        System.out.println("RoomTest: " + calls + " bytes for 20 rounds of calls, " + objects + " for an object");
-        c.due("the calls make nothing", calls < 2000 ? 1 : 0, 1);
-        c.due("an object takes at most 8000 bytes", objects < 8000 ? 1 : 0, 1);
+        long dearest = 0;
+        for (int call = 0; call < Calls.NAMES.length; call++) {
+            run(call);
+            long before = taken();
+            run(call);
+            long bytes = taken() - before;
+            c.due(Calls.NAMES[call] + "() " + CALLS + " times in " + bytes + " bytes", bytes < ROOM ? 1 : 0, 1);
+            dearest = Math.max(dearest, bytes);
+        }
+        System.out.println("RoomTest: " + dearest + " bytes for the dearest run");
         c.end();
+    }
+
+    /** A new object, the largest PIECE, some of it PLAYED, and then one call as often as it is promised. */
+    private static void run(int call) {
+        BarBehind x = Check.of(LARGEST);
+        int calls = 2 + LARGEST.length();
+        sum += x.row(0, 40) + x.row(1, 40) + x.image(0) + x.play() + x.play() + x.slip(0, 1) + x.image(1);
+        for (int i = calls + 7; i < CALLS; i++) sum += Calls.on(x, call, arguments(call));
+    }
+
+    private static final int[] PLAIN = {0, 1, 1, 0, 20}, SEED = {20, 77}, NUMBERS = {0, 40};
+
+    private static int[] arguments(int call) {
+        switch (Calls.NAMES[call]) {
+            case "lots": return SEED;
+            case "row": case "text": return NUMBERS;
+            default: return PLAIN;
+        }
     }
 
     private static long taken() {
         return THREADS.getThreadAllocatedBytes(Thread.currentThread().getId());
-    }
-
-    private static void callAll(BarBehind x) {
-        sum += x.row(0, 40) + x.lay(0, 1, 2) + x.at(0, 1) + x.copy(0, 0, 0, 1, 9) + x.mean(0) + x.tear(0);
-        sum += x.text(1, 80) + x.put(1, 0, 1) + x.fault(0) + x.piece(0) + x.place(0, 1) + x.note(0, 0) + x.mark(1, 1);
-        sum += x.lots(4, 77) + x.play() + x.slip(0, 1) + x.jump(1, 0) + x.image(0) + x.anew(0) + x.restore(0);
-        sum += x.undo(3) + x.here() + x.out(0) + x.hear() + x.heard(3);
-        sum += x.fits() + x.odds(0) + x.self(0) + x.who() + x.likely() + x.began();
-        sum += x.tells(0) + x.best() + x.hides(0, 1) + x.fewest() + x.modern();
-        for (int rule = 0; rule < 6; rule++) sum += x.together(rule) + x.signs(rule);
-        sum += x.rule() + x.line() + x.letter() + x.aloud();
-        sum += x.asked() + x.upper() + x.lower() + x.count(0) + x.finding() + x.findings(1) + x.digest();
     }
 }
