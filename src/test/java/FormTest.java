@@ -94,7 +94,8 @@ public final class FormTest {
         int opened = -1;
         for (int i = 0; i < lines.size(); i++) {
             String line = lines.get(i);
-            String code = line.replaceAll("//.*", "").replaceAll("^\\s*/?\\*.*", "").replaceAll("(case .*|default) ->", "CASE ->");
+            String code = line.replaceAll("//.*", "").replaceAll("^\\s*/?\\*.*", "");
+            code = code.replaceAll("(case .*|default) ->", "CASE ->");
             for (String sign : FORBIDDEN) {
                 holds("line " + (i + 1) + " without " + sign, !Pattern.compile(sign).matcher(code).find());
             }
