@@ -23,7 +23,7 @@ import javax.tools.StandardJavaFileManager;
 import javax.tools.ToolProvider;
 
 /**
- * The rules of ../shared/LANGUAGE.md by the compiler's own tree of the class. Narrower than the rules where the class
+ * Those rules of ../shared/LANGUAGE.md that the compiler's own tree of the class shows. Narrower than the rules where the class
  * keeps to less: it takes no lists, no texts and no doubles, and makes objects in constructors alone.
  */
 public final class LanguageTest extends TreePathScanner<Void, Void> {
